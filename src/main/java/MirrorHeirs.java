@@ -682,9 +682,9 @@ public final class MirrorHeirs {
 
     /** A list of rows of numbers, with room for so many. */
     private static final class Rows {
-        final int[] numbers;
-        final int width;
-        final int most;
+        private final int[] numbers;
+        private final int width;
+        private final int most;
         int size;
 
         Rows(int most, int width) {
@@ -762,15 +762,15 @@ public final class MirrorHeirs {
 
     /** All that an image keeps. */
     private static final class Hall {
-        final int[] kinds;
-        final int[] termValues;
+        private final int[] kinds;
+        private final int[] termValues;
         final Rows pivots;
         final Rows heirs;
         final Rows things;
         final Rows candles;
         final Rows tellings;
         final Rows hints;
-        final Text[] laws;
+        private final Text[] laws;
         int lawCount;
         int inForce;
 
@@ -872,6 +872,7 @@ public final class MirrorHeirs {
         final Rows lines;
         int length;
         boolean fogs;
+        boolean fogsByGlance;
         boolean looks;
 
         Text(int room) {
@@ -884,6 +885,7 @@ public final class MirrorHeirs {
             lines.clear();
             length = 0;
             fogs = false;
+            fogsByGlance = false;
             looks = false;
         }
 
@@ -910,6 +912,7 @@ public final class MirrorHeirs {
             text.lines.copy(lines);
             text.length = text.code.length;
             text.fogs = fogs;
+            text.fogsByGlance = fogsByGlance;
             text.looks = looks;
             return text;
         }
@@ -927,17 +930,18 @@ public final class MirrorHeirs {
         private static final int MOST_NUMBER = 1000;
         private static final int MOST_TIMES = 20;
 
-        final int[] bytes;
+        private final int[] bytes;
         final Text draft;
-        int length;
-        int start;
-        int next;
-        int sort;
-        int number;
-        int faultAt;
-        int parts;
-        int brackets;
-        boolean lawful;
+        private int length;
+        private int start;
+        private int next;
+        private int sort;
+        private int number;
+        private int faultAt;
+        private int parts;
+        private int brackets;
+        private boolean lawful;
+        private boolean fogging;
 
         Reader(int[] bytes) {
             this.bytes = bytes;
@@ -951,6 +955,7 @@ public final class MirrorHeirs {
             parts = 0;
             brackets = 0;
             lawful = true;
+            fogging = false;
         }
 
         int readLaw(int upTo) {
@@ -977,7 +982,7 @@ public final class MirrorHeirs {
             return fail();
         }
 
-        void begin(int upTo, boolean asLaw) {
+        private void begin(int upTo, boolean asLaw) {
             length = Math.max(0, Math.min(upTo, bytes.length));
             lawful = asLaw;
             draft.clear();
@@ -986,14 +991,15 @@ public final class MirrorHeirs {
             parts = 0;
             brackets = 0;
             sort = AT_END;
+            fogging = false;
             advance();
         }
 
-        int finish() {
+        private int finish() {
             return sort == AT_END ? faultAt : fail();
         }
 
-        int fail() {
+        private int fail() {
             if (faultAt == NONE) {
                 faultAt = start;
             }
@@ -1001,7 +1007,8 @@ public final class MirrorHeirs {
             return faultAt;
         }
 
-        void clause(int line) {
+        private void clause(int line) {
+            fogging = is("fogs");
             if (take("claims")) {
                 draft.lines.set(line, VERB, CLAIMS);
                 sum();
@@ -1016,7 +1023,7 @@ public final class MirrorHeirs {
             draft.lines.set(line, TIMES, 1);
         }
 
-        void order(int line) {
+        private void order(int line) {
             if (take("turn")) {
                 draft.lines.set(line, VERB, TURN);
                 sum();
@@ -1037,7 +1044,7 @@ public final class MirrorHeirs {
             draft.lines.set(line, TIMES, take("times") ? written(1, MOST_TIMES) : 1);
         }
 
-        void condition(int line) {
+        private void condition(int line) {
             draft.lines.set(line, TEST, draft.length);
             if (take("if")) {
                 test();
@@ -1045,7 +1052,7 @@ public final class MirrorHeirs {
             draft.lines.set(line, CLOSE, draft.length);
         }
 
-        void test() {
+        private void test() {
             both();
             for (int left = length; left > 0 && take("or"); left--) {
                 int jump = draft.emit(OR, 0);
@@ -1054,7 +1061,7 @@ public final class MirrorHeirs {
             }
         }
 
-        void both() {
+        private void both() {
             plain();
             for (int left = length; left > 0 && take("and"); left--) {
                 int jump = draft.emit(AND, 0);
@@ -1063,7 +1070,7 @@ public final class MirrorHeirs {
             }
         }
 
-        void plain() {
+        private void plain() {
             boolean negated = false;
             for (int left = length; left > 0 && take("not"); left--) {
                 negated = !negated;
@@ -1085,7 +1092,7 @@ public final class MirrorHeirs {
             }
         }
 
-        void sum() {
+        private void sum() {
             term();
             for (int left = length; left > 0; left--) {
                 int op = take("+") ? ADD : take("-") ? SUBTRACT : NONE;
@@ -1097,7 +1104,7 @@ public final class MirrorHeirs {
             }
         }
 
-        void term() {
+        private void term() {
             part();
             for (int left = length; left > 0; left--) {
                 int op = take("*") ? MULTIPLY : take("/") ? DIVIDE : take("%") ? REMAINDER : NONE;
@@ -1109,7 +1116,7 @@ public final class MirrorHeirs {
             }
         }
 
-        void part() {
+        private void part() {
             if (opens("[")) {
                 sum();
                 closes("]");
@@ -1133,10 +1140,13 @@ public final class MirrorHeirs {
             draft.emit(numeral ? PUSH_NUMBER : PUSH_SLOT, numeral ? value : slot);
         }
 
-        int lawWord() {
+        private int lawWord() {
             if (is("x")) return OF_X;
             if (is("y")) return OF_Y;
-            if (is("glance")) return OF_GLANCE;
+            if (is("glance")) {
+                draft.fogsByGlance |= fogging;
+                return OF_GLANCE;
+            }
             if (is("hour")) return OF_HOUR;
             if (is("heir")) return OF_HEIR;
             if (is("age")) return OF_AGE;
@@ -1150,7 +1160,7 @@ public final class MirrorHeirs {
             return NONE;
         }
 
-        int orderWord() {
+        private int orderWord() {
             if (is("hour")) return BY_HOUR;
             if (is("pivots")) return BY_PIVOTS;
             if (is("done")) return BY_DONE;
@@ -1159,7 +1169,7 @@ public final class MirrorHeirs {
             return slot;
         }
 
-        int written(int least, int most) {
+        private int written(int least, int most) {
             if (sort != AT_NUMBER || number < least || number > most) {
                 fail();
                 return least;
@@ -1169,7 +1179,7 @@ public final class MirrorHeirs {
             return value;
         }
 
-        boolean opens(String sign) {
+        private boolean opens(String sign) {
             if (!is(sign)) {
                 return false;
             }
@@ -1182,14 +1192,16 @@ public final class MirrorHeirs {
             return true;
         }
 
-        void closes(String sign) {
+        private void closes(String sign) {
             brackets--;
-            if (!take(sign)) {
+            if (is(sign)) {
+                advance();
+            } else {
                 fail();
             }
         }
 
-        boolean take(String token) {
+        private boolean take(String token) {
             if (!is(token)) {
                 return false;
             }
@@ -1197,7 +1209,7 @@ public final class MirrorHeirs {
             return true;
         }
 
-        boolean is(String token) {
+        private boolean is(String token) {
             if (sort != AT_WORD && sort != AT_SIGN || next - start != token.length()) {
                 return false;
             }
@@ -1209,7 +1221,7 @@ public final class MirrorHeirs {
             return true;
         }
 
-        void advance() {
+        private void advance() {
             for (int left = length; left > 0 && byteAt(next) == ' '; left--) {
                 next++;
             }
@@ -1235,15 +1247,15 @@ public final class MirrorHeirs {
             }
         }
 
-        int byteAt(int place) {
+        private int byteAt(int place) {
             return place >= 0 && place < length && place < bytes.length ? bytes[place] : NONE;
         }
 
-        static boolean isLetter(int sign) {
+        private static boolean isLetter(int sign) {
             return sign >= 'a' && sign <= 'z';
         }
 
-        static boolean isDigit(int sign) {
+        private static boolean isDigit(int sign) {
             return sign >= '0' && sign <= '9';
         }
     }
@@ -1251,7 +1263,7 @@ public final class MirrorHeirs {
     /** What the words of a text stand for just now, and the stack on which its code is worked out. */
     private static final class Slate {
         final int[] slots;
-        final int[] stack;
+        private final int[] stack;
 
         Slate(int size) {
             slots = new int[Math.max(size, 0)];
@@ -1303,7 +1315,7 @@ public final class MirrorHeirs {
             return depth < 1 ? BROKEN : stack[depth - 1];
         }
 
-        static int combined(int op, long left, long right) {
+        private static int combined(int op, long left, long right) {
             if ((op == DIVIDE || op == REMAINDER) && right == 0L) {
                 return BROKEN;
             }
@@ -1331,17 +1343,18 @@ public final class MirrorHeirs {
         // Each cell is left once by each direction and glance behind the first, and four times at first.
         private static final int MOST_BEAMS = CELLS * DIRECTIONS * (MOST_GLANCES - 1) + DIRECTIONS;
 
-        final Hall hall;
-        final Slate slate;
-        final int[] seen;
-        final int[] been;
-        final int[] beams;
-        final int[] fog;
-        int beamCount;
+        private final Hall hall;
+        private final Slate slate;
+        private final int[] seen;
+        private final int[] been;
+        private final int[] beams;
+        private final int[] fog;
+        private int beamCount;
         long met;
-        Text fogLaw;
-        int fogHour;
-        boolean foggy;
+        private Text fogLaw;
+        private int fogHour;
+        private boolean foggy;
+        private boolean shifting;
 
         Sight(Hall hall) {
             this.hall = hall;
@@ -1356,6 +1369,7 @@ public final class MirrorHeirs {
             fogLaw = null;
             fogHour = NONE;
             foggy = false;
+            shifting = false;
         }
 
         void look(int from) {
@@ -1382,7 +1396,7 @@ public final class MirrorHeirs {
             }
         }
 
-        void begin(int from) {
+        private void begin(int from) {
             settleFog();
             Arrays.fill(seen, NONE);
             Arrays.fill(been, 0);
@@ -1397,7 +1411,7 @@ public final class MirrorHeirs {
             }
         }
 
-        void send(int cell, int direction, int glance) {
+        private void send(int cell, int direction, int glance) {
             if (beamCount >= 0 && beamCount < beams.length) {
                 beams[beamCount] = cell | direction << 6 | glance << 8;
                 beamCount++;
@@ -1405,12 +1419,12 @@ public final class MirrorHeirs {
         }
 
         /** Beams go by rising glances, so the first that comes to a cell tells how it is seen. */
-        boolean comesTo(int cell, int direction, int glance) {
+        private boolean comesTo(int cell, int direction, int glance) {
             if (cell < 0 || cell >= seen.length || cell >= been.length) {
                 return false;
             }
-            // Fog may let a later glance through where it stopped an earlier one.
-            int mark = foggy ? 1 << direction * MOST_GLANCES + glance - 1 : 1 << direction;
+            // Only fog by glances may let a later glance through where it stopped an earlier one.
+            int mark = shifting ? 1 << direction * MOST_GLANCES + glance - 1 : 1 << direction;
             if ((been[cell] & mark) != 0) {
                 return false;
             }
@@ -1472,10 +1486,11 @@ public final class MirrorHeirs {
             return i == NONE ? come : NONE;
         }
 
-        void settleFog() {
+        private void settleFog() {
             Text law = hall.lawInForce();
             int hour = hall.term(HOUR);
             foggy = law != null && law.fogs;
+            shifting = foggy && law.fogsByGlance;
             if (foggy && (law != fogLaw || hour != fogHour)) {
                 fogLaw = law;
                 fogHour = hour;
@@ -1483,7 +1498,7 @@ public final class MirrorHeirs {
             }
         }
 
-        boolean fogged(int cell, int glance) {
+        private boolean fogged(int cell, int glance) {
             int place = cell * FOG_WIDTH + glance;
             if (!foggy || fogLaw == null || place < 0 || place >= fog.length) {
                 return false;
@@ -1514,13 +1529,13 @@ public final class MirrorHeirs {
         private static final int HEIRS_AT = 36;
         private static final int PIVOTS_AT = 42;
 
-        final Hall hall;
-        final Sight sight;
-        final Slate slate;
+        private final Hall hall;
+        private final Sight sight;
+        private final Slate slate;
         final long[] glimpses;
-        final int[] claims;
-        final int[] totals;
-        final int[] estates;
+        private final int[] claims;
+        private final int[] totals;
+        private final int[] estates;
         int litThings;
 
         Shares(Hall hall, Sight sight) {
@@ -1593,7 +1608,7 @@ public final class MirrorHeirs {
             return (int) (glimpses[heir] >>> thing * THING_BITS & 7L) - 1;
         }
 
-        boolean inPair(int heir) {
+        private boolean inPair(int heir) {
             for (int other = 0; other < hall.heirs.size && other < glimpses.length && heir < glimpses.length; other++) {
                 if (other != heir && (glimpses[heir] >>> HEIRS_AT + other & 1L) != 0L
                         && (glimpses[other] >>> HEIRS_AT + heir & 1L) != 0L) {
@@ -1630,7 +1645,7 @@ public final class MirrorHeirs {
         }
 
         /** What the law in force tells a heir to claim of a thing that he sees; 0 if he is barred. */
-        int asked(int heir, int thing) {
+        private int asked(int heir, int thing) {
             Text law = hall.lawInForce();
             if (law == null) {
                 return 1;
@@ -1655,7 +1670,7 @@ public final class MirrorHeirs {
             return claim;
         }
 
-        void describe(int heir, int thing) {
+        private void describe(int heir, int thing) {
             int cell = hall.things.get(thing, CELL);
             slate.set(OF_X, cell % SIDE);
             slate.set(OF_Y, cell / SIDE);
@@ -1698,15 +1713,15 @@ public final class MirrorHeirs {
         private static final int SEEN_BITS = 4;
         private static final int SEEN_MASK = 15;
 
-        final Hall hall;
-        final Sight sight;
-        final Shares shares;
-        final long[] glimpses;
-        final int[] lights;
-        final int[] estates;
-        final int[] traces;
-        final int[] fits;
-        final int[] passed;
+        private final Hall hall;
+        private final Sight sight;
+        private final Shares shares;
+        private final long[] glimpses;
+        private final int[] lights;
+        private final int[] estates;
+        private final int[] traces;
+        private final int[] fits;
+        private final int[] passed;
         boolean ready;
         int turns;
         int reached;
@@ -1721,14 +1736,14 @@ public final class MirrorHeirs {
             estates = new int[MOST_SETS * MOST_HEIRS];
             traces = new int[MOST_SETS];
             fits = new int[MOST_SETS];
-            passed = new int[MOST_SETS * MOST_HEIRS];
+            passed = new int[MOST_SETS];
             ready = false;
             turns = 0;
             reached = 0;
             steps = 0;
         }
 
-        int setCount() {
+        private int setCount() {
             return Math.min(MOST_SETS, 1 << hall.pivots.size);
         }
 
@@ -1755,7 +1770,7 @@ public final class MirrorHeirs {
         }
 
         /** Looks only if each pivot of the set mattered where it alone was not turned. */
-        void glimpseIn(int set, int heir) {
+        private void glimpseIn(int set, int heir) {
             int place = set * MOST_HEIRS + heir;
             if (place < 0 || place >= glimpses.length) {
                 return;
@@ -1771,7 +1786,7 @@ public final class MirrorHeirs {
             glimpses[place] = shares.packed();
         }
 
-        void lightIn(int set) {
+        private void lightIn(int set) {
             if (set < 0 || set >= lights.length) {
                 return;
             }
@@ -1779,7 +1794,7 @@ public final class MirrorHeirs {
             lights[set] = shares.litThings;
         }
 
-        void estatesIn(int set) {
+        private void estatesIn(int set) {
             int place = set * MOST_HEIRS;
             if (set < 0 || set >= lights.length || place + MOST_HEIRS > estates.length
                     || place + MOST_HEIRS > glimpses.length) {
@@ -1803,7 +1818,7 @@ public final class MirrorHeirs {
         }
 
         /** A lesser set, by one pivot, by which all see the same and the same is lit. */
-        int sameAs(int set) {
+        private int sameAs(int set) {
             for (int pivot = 0; pivot < hall.pivots.size; pivot++) {
                 int near = set & ~(1 << pivot);
                 boolean same = near < set && near >= 0 && set < lights.length && lights[near] == lights[set];
@@ -1820,13 +1835,13 @@ public final class MirrorHeirs {
             return NONE;
         }
 
-        int estateIn(int set, int heir) {
+        private int estateIn(int set, int heir) {
             int place = set * MOST_HEIRS + heir;
             return place >= 0 && place < estates.length ? estates[place] : 0;
         }
 
         /** By how many glances the cell is seen by each set, with the pivots that mattered. */
-        void trace(int from, int cell) {
+        private void trace(int from, int cell) {
             for (int set = 0; set < setCount() && set < traces.length; set++) {
                 int near = NONE;
                 for (int pivot = 0; pivot < hall.pivots.size && near == NONE; pivot++) {
@@ -1846,7 +1861,7 @@ public final class MirrorHeirs {
             }
         }
 
-        int traced(int set) {
+        private int traced(int set) {
             return set >= 0 && set < traces.length ? (traces[set] & SEEN_MASK) - 1 : NONE;
         }
 
@@ -1871,7 +1886,7 @@ public final class MirrorHeirs {
         }
 
         /** The own pivot by which a heir's estate would get greatest, if greater than it is. */
-        int wish(int set, int heir) {
+        private int wish(int set, int heir) {
             int best = NONE;
             int most = estateIn(set, heir);
             for (int pivot = 0; pivot < hall.pivots.size; pivot++) {
@@ -1937,12 +1952,11 @@ public final class MirrorHeirs {
             int heirs = hall.heirs.size;
             int heir = 0;
             int idle = 0;
-            for (int left = passed.length + 1; left > 0 && idle < heirs; left--) {
-                int place = reached * MOST_HEIRS + heir;
-                if (place < 0 || place >= passed.length || passed[place] == 1) {
+            for (int left = MOST_SETS * MOST_HEIRS + 1; left > 0 && idle < heirs; left--) {
+                if (reached < 0 || reached >= passed.length || (passed[reached] >> heir & 1) != 0) {
                     return false;
                 }
-                passed[place] = 1;
+                passed[reached] |= 1 << heir;
                 int pivot = wish(reached, heir);
                 if (pivot == NONE) {
                     idle++;
@@ -1960,16 +1974,16 @@ public final class MirrorHeirs {
 
     /** Questions of where: to stand, the stranger, what pillars hide; sets of cells are bits of a long. */
     private static final class Places {
-        final Hall hall;
-        final Sight sight;
-        final int[] masks;
-        final int[] sizes;
-        final int[] firsts;
-        int groups;
-        int all;
-        long blanks;
+        private final Hall hall;
+        private final Sight sight;
+        private final int[] masks;
+        private final int[] sizes;
+        private final int[] firsts;
+        private int groups;
+        private int all;
+        private long blanks;
         long ways;
-        long best;
+        private long best;
 
         Places(Hall hall, Sight sight) {
             this.hall = hall;
@@ -2000,7 +2014,7 @@ public final class MirrorHeirs {
         }
 
         /** Cells from which the same things are seen are counted together, under the first of them. */
-        void group(int cell, int mask) {
+        private void group(int cell, int mask) {
             if (mask == 0) {
                 blanks |= 1L << cell;
                 return;
@@ -2022,7 +2036,7 @@ public final class MirrorHeirs {
         }
 
         /** The lowest thing that is not covered yet is covered by one of the groups that see it. */
-        void cover(int covered, int left, long product, long chosen) {
+        private void cover(int covered, int left, long product, long chosen) {
             if (covered == all) {
                 rest(left, product, chosen);
                 return;
@@ -2038,7 +2052,7 @@ public final class MirrorHeirs {
             }
         }
 
-        void rest(int left, long product, long chosen) {
+        private void rest(int left, long product, long chosen) {
             long more = chosen;
             long choices = product;
             long free = blanks;
@@ -2127,10 +2141,10 @@ public final class MirrorHeirs {
     private static final class Wind {
         private static final int WENT = 1;
 
-        final Hall hall;
-        final Shares shares;
+        private final Hall hall;
+        private final Shares shares;
         final Rows lamps;
-        int state;
+        private int state;
 
         Wind(Hall hall, Shares shares) {
             this.hall = hall;
@@ -2159,7 +2173,7 @@ public final class MirrorHeirs {
             return rents;
         }
 
-        void drift(int candle) {
+        private void drift(int candle) {
             if (draw(10) >= hall.term(DRAUGHT)) {
                 return;
             }
@@ -2170,7 +2184,7 @@ public final class MirrorHeirs {
             }
         }
 
-        int draw(int m) {
+        private int draw(int m) {
             state = (state * 1103 + 12345) % 1000003;
             return m > 0 ? state % m : 0;
         }
@@ -2184,12 +2198,12 @@ public final class MirrorHeirs {
         private static final int TURNED_IT = 0;
         private static final int MOVED_IT = 1;
 
-        final Hall hall;
-        final Shares shares;
-        final Slate slate;
+        private final Hall hall;
+        private final Shares shares;
+        private final Slate slate;
         final Rows log;
-        final Hall hallAhead;
-        final Rows logAhead;
+        private final Hall hallAhead;
+        private final Rows logAhead;
         int stoppedAt;
 
         Deeds(Hall hall, Shares shares) {
@@ -2216,7 +2230,7 @@ public final class MirrorHeirs {
             hall.heirs.set(heir, CELL, cell);
         }
 
-        void note(int what, int who, int from) {
+        private void note(int what, int who, int from) {
             if (log.size >= MOST_UNDONE) {
                 log.drop(0);
             }
@@ -2261,7 +2275,7 @@ public final class MirrorHeirs {
         }
 
         /** What the words of orders stand for changes only behind one that was run. */
-        void learn(Text text, int done) {
+        private void learn(Text text, int done) {
             slate.set(BY_HOUR, hall.term(HOUR));
             slate.set(BY_PIVOTS, hall.pivots.size);
             slate.set(BY_DONE, done);
@@ -2279,7 +2293,7 @@ public final class MirrorHeirs {
             }
         }
 
-        boolean perform(Text text, int line) {
+        private boolean perform(Text text, int line) {
             int verb = text.lines.get(line, VERB);
             if (verb == WAIT) {
                 hall.setTerm(HOUR, (hall.term(HOUR) + 1) % HOURS);
