@@ -102,7 +102,7 @@ public final class MirrorHeirs {
     private static final int CODE_BITS = 4;
     private static final int CODE_MASK = 15;
 
-    private static final int BROKEN = Integer.MIN_VALUE;
+    private static final int BROKEN = -2147483648;
     private static final long FARTHEST = 1000000000L;
 
     private final Hall hall;
@@ -357,7 +357,7 @@ public final class MirrorHeirs {
         if (!hall.heirs.has(one) || !hall.heirs.has(other) || one == other) {
             return NONE;
         }
-        return eachSees(one, other) && eachSees(other, one) ? 1 : 0;
+        return sees(one, other) && sees(other, one) ? 1 : 0;
     }
 
     public int claim(int heir, int thing, int what) {
@@ -384,7 +384,7 @@ public final class MirrorHeirs {
         if (what == 1) {
             return Integer.bitCount(claimants);
         }
-        return Integer.bitCount(claimants) == 1 ? Integer.numberOfTrailingZeros(claimants) : NONE;
+        return Integer.bitCount(claimants) == 1 ? pick(claimants, 0) : NONE;
     }
 
     public int estate(int heir) {
@@ -608,7 +608,7 @@ public final class MirrorHeirs {
         }
     }
 
-    private boolean eachSees(int one, int other) {
+    private boolean sees(int one, int other) {
         sight.look(hall.heirs.get(one, CELL));
         return sight.seenAt(hall.heirs.get(other, CELL)) != NONE;
     }
@@ -1316,16 +1316,23 @@ public final class MirrorHeirs {
         }
 
         private static int combined(int op, long left, long right) {
-            if ((op == DIVIDE || op == REMAINDER) && right == 0L) {
-                return BROKEN;
-            }
             long result;
             switch (op) {
                 case ADD: result = left + right; break;
                 case SUBTRACT: result = left - right; break;
                 case MULTIPLY: result = left * right; break;
-                case DIVIDE: result = right == 0L ? 0L : left / right; break;
-                case REMAINDER: result = right == 0L ? 0L : left % right; break;
+                case DIVIDE:
+                    if (right == 0L) {
+                        return BROKEN;
+                    }
+                    result = left / right;
+                    break;
+                case REMAINDER:
+                    if (right == 0L) {
+                        return BROKEN;
+                    }
+                    result = left % right;
+                    break;
                 case LESS: result = left < right ? 1L : 0L; break;
                 case MORE: result = left > right ? 1L : 0L; break;
                 default: result = left == right ? 1L : 0L; break;
@@ -2044,7 +2051,8 @@ public final class MirrorHeirs {
             if (left <= 0) {
                 return;
             }
-            int lowest = Integer.lowestOneBit(all & ~covered);
+            int open = all & ~covered;
+            int lowest = open & -open;
             for (int i = 0; i < groups && i < masks.length && i < sizes.length && i < firsts.length; i++) {
                 if ((masks[i] & lowest) != 0 && (masks[i] & covered) == 0) {
                     cover(covered | masks[i], left - 1, product * sizes[i], chosen | 1L << firsts[i]);
@@ -2059,7 +2067,7 @@ public final class MirrorHeirs {
             int freeCount = Long.bitCount(blanks);
             for (int i = 0; i < left; i++) {
                 choices *= freeCount - i;
-                more |= Long.lowestOneBit(free);
+                more |= free & -free;
                 free &= free - 1L;
             }
             for (int i = 2; i <= left; i++) {
@@ -2070,7 +2078,7 @@ public final class MirrorHeirs {
             }
             // Of two sets of as many cells that one is first which has the lowest cell that is not in both.
             long unlike = more ^ best;
-            if (ways == 0L || (more & Long.lowestOneBit(unlike)) != 0L) {
+            if (ways == 0L || (more & unlike & -unlike) != 0L) {
                 best = more;
             }
             ways += choices;

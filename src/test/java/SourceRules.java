@@ -47,8 +47,7 @@ public final class SourceRules {
         }
         Matcher library = Pattern.compile("\\b(Arrays|Math|Integer|Long)\\.(\\w+)").matcher(code);
         while (library.find()) {
-            must(Set.of("fill", "copyOf", "copyOfRange", "min", "max", "abs", "bitCount", "lowestOneBit",
-                    "numberOfTrailingZeros", "MIN_VALUE").contains(library.group(2)), "library " + library.group());
+            must(Set.of("fill", "copyOf", "copyOfRange", "min", "max", "abs", "bitCount").contains(library.group(2)), "library " + library.group());
         }
     }
 
