@@ -2259,7 +2259,6 @@ public final class MirrorHeirs {
 
         /** How many were run; NONE if one could not be, and then all is as it was. */
         int run(Text text) {
-            stoppedAt = NONE;
             hallAhead.copy(hall);
             logAhead.copy(log);
             int done = 0;

@@ -448,6 +448,8 @@ public final class Promises {
         faulty("claims done", 7);
         faulty("claims estate 0", 7);
         faulty("claimsx", 0);
+        faulty("fogsz", 0);
+        faulty("afogs", 0);
         faulty("fogs\n", 4);
         faulty("fogs \377", 5);
         faulty("fogs if x<1 and", 15);
@@ -534,6 +536,7 @@ public final class Promises {
         faultyOrders("turn 0 to 1", 7);
         faultyOrders("move 0", 6);
         faultyOrders("move 0 to", 9);
+        faultyOrders("move 0 5", 7);
         faultyOrders("wait 1", 5);
         faultyOrders("wait times", 10);
         faultyOrders("wait times 0", 11);
@@ -711,6 +714,18 @@ public final class Promises {
         due("a fogged cracked one, straight on", m.glance(0, 7), 1);
         inForce("fogs if heir+age+thing+worth+high+lit=0-6");
         due("what fog is not asked of is -1", m.glance(0, 11), NONE);
+        // two ways into one ray, through a cracked glass at 18: fog at 20 stops the first glance, not the fourth
+        again();
+        m.terms(0, 6);
+        m.put(18, 4);
+        m.put(20, 2);
+        m.put(40, 2);
+        m.put(42, 1);
+        due("glance(16, 28)", m.glance(16, 28), 2);
+        inForce("fogs if x=4 and glance=1");
+        due("glance(16, 28) by the long way", m.glance(16, 28), 5);
+        m.terms(0, 4);
+        due("glance(16, 28) by four", m.glance(16, 28), NONE);
     }
 
     private static void views() {
@@ -930,6 +945,19 @@ public final class Promises {
         due("turned(0)", m.turned(0), 0);
         due("turned(1)", m.turned(1), NONE);
         due("turned(2)", m.turned(2), NONE);
+        // 27 is seen from 0 by 5 and 29, or by 48 and 51: sets 3, 4, 5, 6, 7
+        again();
+        m.put(5, 1);
+        m.put(29, 2);
+        m.put(48, 2);
+        m.put(51, 2);
+        m.pivot(5, 0, 0);
+        m.pivot(29, 0, 0);
+        m.pivot(51, 0, 0);
+        m.telling(0, 27, 3);
+        due("turned(0)", m.turned(0), 5);
+        due("turned(1)", m.turned(1), 1);
+        due("turned(2), the fewest ahead of the lowest", m.turned(2), 4);
     }
 
     private static void hint() {
@@ -1093,6 +1121,20 @@ public final class Promises {
         due("peace(0)", m.peace(0), 1);
         due("peace(1)", m.peace(1), 1);
         due("peace(2)", m.peace(2), 3);
+        // only what is lit changes: by the glass at 29 the candle at 24 shines on 5, or not
+        again();
+        m.put(29, 2);
+        m.pivot(29, 0, 0);
+        m.heir(0, 1);
+        m.thing(5, 10, 0);
+        m.candle(24);
+        inForce("bars if lit=0");
+        due("peace(0) by light", m.peace(0), 1);
+        due("peace(2) by light", m.peace(2), 1);
+        due("quarrel(1) by light", m.quarrel(1), 1);
+        m.force(NONE);
+        due("peace(0) without the law", m.peace(0), 0);
+        due("peace(2) without the law", m.peace(2), 2);
         again();
         endless();
         due("peace(0) that is none", m.peace(0), NONE);
@@ -1140,6 +1182,9 @@ public final class Promises {
         due("at(3, 0), on paper only", m.at(3, 0), 1);
         m.thing(25, 10, 0);
         due("quarrel(1), the greatest", m.quarrel(1), 2);
+        m.thing(11, 1, 0);
+        due("quarrel(0), one turn behind another", m.quarrel(0), 2);
+        due("quarrel(1), one turn behind another", m.quarrel(1), 3);
         again();
         endless();
         due("quarrel(0) without end", m.quarrel(0), NONE);
@@ -1278,6 +1323,29 @@ public final class Promises {
         due("back(1) once more", m.back(1), 0);
         due("at(40, 0)", m.at(40, 0), 0);
         due("back(0)", m.back(0), -2);
+        // what was written over since then is there again
+        again();
+        m.image(0);
+        for (int cell = 0; cell < 64; cell++) {
+            m.put(cell, 1 + cell % 5);
+        }
+        m.thing(0, 10, 1);
+        m.thing(0, 20, 2);
+        law("claims 7");
+        m.image(1);
+        m.back(0);
+        m.heir(0, 1);
+        m.thing(1, 1, 1);
+        inForce("claims 9");
+        m.back(1);
+        for (int cell = 0; cell < 64; cell++) {
+            due("at(" + cell + ", 0)", m.at(cell, 0), 1 + cell % 5);
+        }
+        m.put(0, 0);
+        m.heir(0, 1);
+        m.force(0);
+        due("claim(0, 0, 0)", m.claim(0, 0, 0), 7);
+        due("estate(0)", m.estate(0), 30000);
     }
 
     private static void count() {
