@@ -107,7 +107,6 @@ public final class MirrorHeirs {
 
     private final Hall hall;
     private final Hall[] images;
-    private final boolean[] kept;
     private final int[] tape;
     private final int[] refusals;
     private final Reader reader;
@@ -123,18 +122,22 @@ public final class MirrorHeirs {
     private int latestStatus;
 
     public MirrorHeirs() {
-        hall = new Hall();
+        // All parts work on one hall and one tape, which are made ahead of them.
+        Hall oneHall = new Hall();
+        int[] oneTape = new int[TAPE_ROOM];
+        Sight oneSight = new Sight(oneHall);
+        Shares oneShares = new Shares(oneHall, oneSight);
+        hall = oneHall;
+        tape = oneTape;
+        sight = oneSight;
+        shares = oneShares;
         images = new Hall[MOST_IMAGES];
-        kept = new boolean[MOST_IMAGES];
-        tape = new int[TAPE_ROOM];
         refusals = new int[-BAD_TEXT];
-        reader = new Reader(tape);
-        sight = new Sight(hall);
-        shares = new Shares(hall, sight);
-        sets = new Sets(hall, sight, shares);
-        places = new Places(hall, sight);
-        wind = new Wind(hall, shares);
-        deeds = new Deeds(hall, shares);
+        reader = new Reader(oneTape);
+        sets = new Sets(oneHall, oneSight, oneShares);
+        places = new Places(oneHall, oneSight);
+        wind = new Wind(oneHall, oneShares);
+        deeds = new Deeds(oneHall, oneShares);
         tapeLength = 0;
         faultPlace = NONE;
         dustCount = 0;
@@ -519,22 +522,21 @@ public final class MirrorHeirs {
     }
 
     public int image(int k) {
-        if (k < 0 || k >= images.length || k >= kept.length) {
+        if (k < 0 || k >= images.length) {
             return refused(BAD_NUMBER);
         }
         if (images[k] == null) {
             images[k] = new Hall();
         }
         images[k].copy(hall);
-        kept[k] = true;
         return granted(0);
     }
 
     public int back(int k) {
-        if (k < 0 || k >= images.length || k >= kept.length) {
+        if (k < 0 || k >= images.length) {
             return refused(BAD_NUMBER);
         }
-        if (!kept[k] || images[k] == null) {
+        if (images[k] == null) {
             return refused(NO_SUCH);
         }
         hall.copy(images[k]);
@@ -878,7 +880,10 @@ public final class MirrorHeirs {
         Text(int room) {
             code = new int[Math.max(room, 0)];
             lines = new Rows(MOST_LINES, LINE_WIDTH);
-            clear();
+            length = 0;
+            fogs = false;
+            fogsByGlance = false;
+            looks = false;
         }
 
         void clear() {
@@ -1262,11 +1267,13 @@ public final class MirrorHeirs {
 
     /** What the words of a text stand for just now, and the stack on which its code is worked out. */
     private static final class Slate {
-        final int[] slots;
+        private final int[] slots;
         private final int[] stack;
 
-        Slate(int size) {
-            slots = new int[Math.max(size, 0)];
+        Slate(int size, int first) {
+            int[] values = new int[Math.max(size, 0)];
+            Arrays.fill(values, first);
+            slots = values;
             stack = new int[CELLS];
         }
 
@@ -1365,8 +1372,7 @@ public final class MirrorHeirs {
 
         Sight(Hall hall) {
             this.hall = hall;
-            slate = new Slate(LAW_SLOTS);
-            Arrays.fill(slate.slots, NONE);
+            slate = new Slate(LAW_SLOTS, NONE);
             seen = new int[CELLS];
             been = new int[CELLS];
             beams = new int[MOST_BEAMS];
@@ -1548,7 +1554,7 @@ public final class MirrorHeirs {
         Shares(Hall hall, Sight sight) {
             this.hall = hall;
             this.sight = sight;
-            slate = new Slate(LAW_SLOTS);
+            slate = new Slate(LAW_SLOTS, NONE);
             glimpses = new long[MOST_HEIRS];
             claims = new int[MOST_HEIRS * MOST_THINGS];
             totals = new int[MOST_THINGS];
@@ -2217,7 +2223,7 @@ public final class MirrorHeirs {
         Deeds(Hall hall, Shares shares) {
             this.hall = hall;
             this.shares = shares;
-            slate = new Slate(ORDER_SLOTS);
+            slate = new Slate(ORDER_SLOTS, 0);
             log = new Rows(MOST_UNDONE, 3);
             hallAhead = new Hall();
             logAhead = new Rows(MOST_UNDONE, 3);
