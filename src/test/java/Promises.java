@@ -1,79 +1,5 @@
 /** Promise by promise: ordinary calls, the edges that the document names, calls that are refused. */
-public final class Promises {
-    private static final int NONE = -1;
-    private static int wrong = 0;
-    private static int promise = 0;
-    private static MirrorHeirs m;
-
-    private static void due(String call, int got, int want) {
-        if (got != want) {
-            wrong++;
-            System.out.println("promise " + promise + ": " + call + " answered " + got + ", due is " + want);
-        }
-    }
-
-    private static void begin(int number) {
-        promise = number;
-        m = new MirrorHeirs();
-    }
-
-    private static void again() {
-        m = new MirrorHeirs();
-    }
-
-    private static void write(String text) {
-        int length = text.length();
-        m.end(0);
-        for (int at = 0; at < length; at += 20) {
-            int[] n = new int[5];
-            for (int i = 0; i < 20; i++) {
-                n[i / 4] = n[i / 4] << 8 | (at + i < length ? text.charAt(at + i) & 255 : 0);
-            }
-            m.feed(n[0], n[1], n[2], n[3], n[4]);
-        }
-        m.end(length);
-    }
-
-    private static int law(String text) {
-        write(text);
-        return m.law();
-    }
-
-    private static int orders(String text) {
-        write(text);
-        return m.orders();
-    }
-
-    private static void inForce(String text) {
-        int number = law(text);
-        due("law() of " + text, number >= 0 ? 0 : number, 0);
-        m.force(number);
-    }
-
-    private static void faulty(String text, int place) {
-        due("law() of " + text, law(text), -6);
-        due("fault() of " + text, m.fault(), place);
-    }
-
-    private static void faultyOrders(String text, int place) {
-        due("orders() of " + text, orders(text), -6);
-        due("fault() of " + text, m.fault(), place);
-    }
-
-    /** What a heir of age 40 at 0 claims of a thing at 16 (worth 20, high 3) by a law, at hour 5. */
-    private static void claims(String text, int want) {
-        again();
-        m.heir(0, 40);
-        m.thing(16, 20, 3);
-        m.terms(1, 5);
-        inForce(text);
-        due("claim(0, 0, 0) by " + text, m.claim(0, 0, 0), want);
-    }
-
-    private static void refusedWith(int by) {
-        due("status()", m.status(), by);
-    }
-
+public final class Promises extends Due {
     private static void newObject() {
         begin(1);
         for (int what = 0; what <= 13; what++) {
@@ -484,7 +410,7 @@ public final class Promises {
     }
 
     private static void claimsOfLaws() {
-        promise = 17;
+        begin(17);
         claims("claims x*100+y*10+glance", 21);
         claims("claims hour*100+heir*10+thing", 500);
         claims("claims age", 40);
@@ -1498,9 +1424,6 @@ public final class Promises {
         back();
         count();
         status();
-        System.out.println(wrong == 0 ? "all promises hold" : wrong + " answers are not as due");
-        if (wrong != 0) {
-            System.exit(1);
-        }
+        finish("all promises hold");
     }
 }

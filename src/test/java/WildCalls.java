@@ -67,18 +67,6 @@ public final class WildCalls {
     private static final List<String> ASKING = List.of("at", "of", "dust", "fault", "stopped", "ray", "glance", "views", "pair", "claim",
         "owner", "estate", "lit", "stand", "turned", "stranger", "reveal", "hide", "hides", "peace", "quarrel", "drawn", "count", "status");
 
-    private static void write(MirrorHeirs m, String text) {
-        m.end(0);
-        for (int at = 0; at < text.length(); at += 20) {
-            int[] n = new int[5];
-            for (int i = 0; i < 20; i++) {
-                n[i / 4] = n[i / 4] << 8 | (at + i < text.length() ? text.charAt(at + i) : 0);
-            }
-            m.feed(n[0], n[1], n[2], n[3], n[4]);
-        }
-        m.end(text.length());
-    }
-
     private static void fill(MirrorHeirs m, Random random) {
         m.terms(0, 6);
         for (int heir = 0; heir < 6; heir++) {
@@ -97,7 +85,7 @@ public final class WildCalls {
             m.candle(random.nextInt(64));
         }
         for (int law = 0; law < 6; law++) {
-            write(m, "claims age/heir+worth*lit;fogs if glance=" + law + ";bars if x/y=" + law);
+            Due.write(m, "claims age/heir+worth*lit;fogs if glance=" + law + ";bars if x/y=" + law);
             m.law();
         }
         m.force(random.nextInt(6));
