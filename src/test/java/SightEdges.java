@@ -1,3 +1,7 @@
+import java.util.ArrayDeque;
+import java.util.Arrays;
+import java.util.Deque;
+
 /** Terms III and what promises 22 to 40 say of its edges, sentence by sentence. */
 public final class SightEdges extends Due {
     // From 0 to the right, each is come to by the next glance if all ahead of it are falling.
@@ -165,6 +169,116 @@ public final class SightEdges extends Due {
         }
     }
 
+    private static void fogOnTheRim() {
+        begin("a FOGGED GLASS in a corner");
+        int[] corners = {0, 7, 56, 63};
+        int[] kinds = {1, 2, 2, 1};
+        int[] from = {1, 6, 57, 62};
+        int[] to = {8, 15, 48, 55};
+        for (int i = 0; i < 4; i++) {
+            m.put(corners[i], kinds[i]);
+        }
+        law("fogs");
+        law("fogs if glance=1");
+        for (int i = 0; i < 4; i++) {
+            m.force(NONE);
+            due("glance(" + from[i] + ", " + to[i] + ")", m.glance(from[i], to[i]), 2);
+            m.force(0);
+            due("glance(" + from[i] + ", " + to[i] + ") by fog", m.glance(from[i], to[i]), NONE);
+            m.force(1);
+            due("glance(" + from[i] + ", " + to[i] + ") by fog of the first glance", m.glance(from[i], to[i]), NONE);
+        }
+    }
+
+    /** By how many glances each cell is seen, step by step by the document's words; no fog. */
+    private static int[] seenFrom(int[] kinds, int from, int most) {
+        int[] seen = new int[64];
+        Arrays.fill(seen, NONE);
+        seen[from] = 0;
+        boolean[] been = new boolean[64 * 4 * 8];
+        for (int glance = 1; glance <= most; glance++) {
+            Deque<int[]> open = new ArrayDeque<>();
+            for (int at = 0; at < 256; at++) {
+                if (glance == 1 ? at / 4 == from : been[(glance * 256) + at]) {
+                    open.add(new int[] {at / 4, at % 4});
+                }
+            }
+            while (!open.isEmpty()) {
+                int[] now = open.remove();
+                int x = now[0] % 8 + (now[1] == 1 ? 1 : now[1] == 3 ? -1 : 0);
+                int y = now[0] / 8 + (now[1] == 2 ? 1 : now[1] == 0 ? -1 : 0);
+                if (x < 0 || x > 7 || y < 0 || y > 7) {
+                    continue;
+                }
+                int cell = 8 * y + x;
+                int kind = kinds[cell];
+                seen[cell] = seen[cell] == NONE ? glance : seen[cell];
+                if (kind == 1 || kind == 2 || kind > 3) {
+                    int turned = kind == 1 || kind == 4 ? new int[] {1, 0, 3, 2}[now[1]] : new int[] {3, 2, 1, 0}[now[1]];
+                    been[((glance + 1) * 256) + 4 * cell + turned] = true;
+                }
+                if (kind == 0 || kind > 3) {
+                    open.add(new int[] {cell, now[1]});
+                }
+            }
+        }
+        return seen;
+    }
+
+    private static void compare(String what, int[] kinds, int most, boolean byGlances) {
+        begin(what + ", GLANCES " + most);
+        for (int cell = 0; cell < 64; cell++) {
+            m.put(cell, kinds[cell]);
+        }
+        m.terms(0, most);
+        if (byGlances) {
+            inForce("fogs if glance=7");
+        }
+        for (int from : new int[] {0, 27, 60}) {
+            int[] seen = seenFrom(kinds, from, most);
+            for (int cell = 0; cell < 64; cell++) {
+                due("glance(" + from + ", " + cell + ")", m.glance(from, cell), seen[cell]);
+            }
+        }
+    }
+
+    private static void fullOfGlass() {
+        for (int most = 1; most <= 6; most++) {
+            for (int kind = 1; kind <= 5; kind++) {
+                int[] kinds = new int[64];
+                int[] mixed = new int[64];
+                int[] sparse = new int[64];
+                for (int cell = 0; cell < 64; cell++) {
+                    kinds[cell] = kind;
+                    mixed[cell] = (cell + cell / 8) % 2 == 0 ? kind : 9 - Math.max(4, kind);
+                    sparse[cell] = cell * 37 % 64 < 20 ? 1 + (cell * kind + 3) % 5 : 0;
+                }
+                compare("a hall full of kind " + kind, kinds, most, kind % 2 == 0);
+                compare("a hall full of " + kind + " and another", mixed, most, kind % 2 == 1);
+                compare("some kinds by " + kind, sparse, most, kind > 2);
+            }
+        }
+        for (int law = 0; law < 2; law++) {
+            begin("the last of very many ways");
+            for (int i = 0; i < 5; i++) {
+                m.put(STAIRS[i], 2);
+            }
+            m.put(27, 3);
+            for (int cell = 33; cell < 40; cell++) {
+                m.put(cell, 3);
+            }
+            for (int cell = 40; cell < 64; cell++) {
+                m.put(cell, 4 + (cell + cell / 8) % 2);
+            }
+            m.terms(0, 6);
+            if (law == 1) {
+                inForce("fogs if glance=7");
+            }
+            due("glance(0, 27)", m.glance(0, 27), 6);
+            due("glance(0, 63)", m.glance(0, 63) > 0 ? 1 : 0, 1);
+        }
+    }
+
     private static void pairs() {
         begin("TWO HEIRS who each see the CELL of the other one are a PAIR; whoever is in one has nothing");
         m.heir(0, 1);
@@ -223,6 +337,28 @@ public final class SightEdges extends Due {
         due("pair(0, 1)", m.pair(0, 1), 0);
         due("pair(1, 0)", m.pair(1, 0), 0);
         due("estate(0)", m.estate(0), 8000);
+        m.thing(51, 4, 0);
+        due("estate(1): both have their share", m.estate(1), 2000);
+        due("estate(0): both have their share", m.estate(0), 10000);
+        begin("one way only, of six HEIRS");
+        stairs(2);
+        m.put(27, 0);
+        m.put(62, 1);
+        m.pivot(62, 0, 0);
+        m.terms(0, 6);
+        m.heir(59, 0);
+        for (int heir = 1; heir < 5; heir++) {
+            m.heir(15, 0);
+        }
+        m.heir(0, 0);
+        m.thing(51, 8, 0);
+        due("estate(0) of a PAIR", m.estate(0), 0);
+        inForce("fogs if x=3 and glance=1");
+        due("pair(0, 5)", m.pair(0, 5), 0);
+        due("pair(1, 4)", m.pair(1, 4), 1);
+        due("estate(0)", m.estate(0), 4000);
+        due("estate(4)", m.estate(4), 0);
+        due("estate(5)", m.estate(5), 4000);
     }
 
     /** Four heirs who all see cell 27 and not one another. */
@@ -238,6 +374,9 @@ public final class SightEdges extends Due {
         begin("A SHARE in lowest terms");
         four();
         m.thing(27, 99, 0);
+        due("claim(0, 0, 0) without a law", m.claim(0, 0, 0), 1);
+        due("claim(0, 0, 1) without a law", m.claim(0, 0, 1), 1);
+        due("claim(0, 0, 2) without a law", m.claim(0, 0, 2), 4);
         inForce("claims 999");
         for (int heir = 0; heir < 4; heir++) {
             due("claim(" + heir + ", 0, 0)", m.claim(heir, 0, 0), 999);
@@ -269,6 +408,8 @@ public final class SightEdges extends Due {
         due("owner(0, 1)", m.owner(0, 1), 3);
         inForce("claims 0;claims 5 if heir=3");
         due("owner(0, 0)", m.owner(0, 0), 3);
+        due("owner(0, -1) of what is OWNED", m.owner(0, -1), NONE);
+        due("owner(0, 2) of what is OWNED", m.owner(0, 2), NONE);
         due("claim(3, 0, 1)", m.claim(3, 0, 1), 1);
         due("claim(3, 0, 2)", m.claim(3, 0, 2), 1);
         inForce("claims 0");
@@ -415,6 +556,27 @@ public final class SightEdges extends Due {
         }
     }
 
+    private static void firstToStand() {
+        begin("the first set, found behind another one");
+        for (int cell = 0; cell < 64; cell++) {
+            m.put(cell, 3);
+        }
+        // 12 sees thing 0, 44 thing 1, 28 both, 0 and 63 none
+        for (int cell : new int[] {0, 12, 28, 44, 63}) {
+            m.put(cell, 0);
+        }
+        m.thing(20, 1, 0);
+        m.thing(36, 1, 0);
+        int[][] first = {{28}, {0, 28}, {0, 12, 44}, {0, 12, 44, 63}};
+        int[] sets = {1, 3, 3, 1};
+        for (int n = 1; n <= 4; n++) {
+            due("stand(" + n + ", 0)", m.stand(n, 0), sets[n - 1]);
+            for (int i = 0; i < n; i++) {
+                due("stand(" + n + ", " + (1 + i) + ")", m.stand(n, 1 + i), first[n - 1][i]);
+            }
+        }
+    }
+
     private static void tellings() {
         begin("TELLINGS, 10 at most: by so many GLANCES (0 .. 6; NONE: not)");
         for (int glances = -1; glances <= 6; glances++) {
@@ -443,12 +605,12 @@ public final class SightEdges extends Due {
         }
     }
 
-    /** Five pivots by which 27 is seen from 0, and three by which 45 is from 63, all turned away. */
+    /** Five pivots (of heir 0) by which 27 is seen from 0, and three (of heir 1) by which 45 is from 63, all turned away. */
     private static void eightTurnedAway(int price) {
         int[] cells = {62, 54, 53, 1, 9, 10, 18, 19};
         for (int i = 0; i < 8; i++) {
             m.put(cells[i], 1);
-            due("pivot " + i, m.pivot(cells[i], i % 6, price), i);
+            due("pivot " + i, m.pivot(cells[i], i < 3 ? 1 : 0, price), i);
         }
         m.terms(0, 6);
     }
@@ -516,6 +678,18 @@ public final class SightEdges extends Due {
         m.thing(27, 1, 0);
         due("reveal(0, 0, 6, 0)", m.reveal(0, 0, 6, 0), 0);
         due("reveal(0, 0, 6, 1)", m.reveal(0, 0, 6, 1), 248);
+        begin("REVEAL, TURNED: behind PIVOTS that went");
+        m.put(3, 1);
+        m.pivot(3, 0, 7);
+        m.heir(0, 0);
+        m.thing(11, 1, 0);
+        m.telling(0, 11, 2);
+        due("reveal(0, 0, 2, 0)", m.reveal(0, 0, 2, 0), 7);
+        due("turned(0)", m.turned(0), 1);
+        m.put(3, 1);
+        due("reveal(0, 0, 2, 0)", m.reveal(0, 0, 2, 0), NONE);
+        due("reveal(0, 0, 2, 1)", m.reveal(0, 0, 2, 1), NONE);
+        due("turned(0)", m.turned(0), 0);
         int[] prices = {9, 8};
         for (int price : prices) {
             begin("REVEAL: one PIVOT for " + price + ", or two for 4 each");
@@ -713,6 +887,49 @@ public final class SightEdges extends Due {
         peaceAndQuarrel(new int[] {0, 0, 256}, new int[] {0, 0, NONE});
     }
 
+    private static void eightThatMatter() {
+        begin("PEACE of 8 PIVOTS, each of which matters");
+        eightTurnedAway(0);
+        m.heir(0, 0);
+        m.heir(63, 0);
+        // each turn shows the next step of the own stairs
+        for (int cell : new int[] {9, 10, 18, 19, 27, 54, 53, 45}) {
+            m.thing(cell, 1, 0);
+        }
+        peaceAndQuarrel(new int[] {8, 255, 1}, new int[] {8, 255, NONE});
+        m.turn(3);
+        peaceAndQuarrel(new int[] {7, 247, 1}, new int[] {7, 247, NONE});
+        m.turn(7);
+        peaceAndQuarrel(new int[] {6, 119, 1}, new int[] {6, 119, NONE});
+        begin("PEACE by what is LIT");
+        m.put(29, 1);
+        m.pivot(29, 0, 0);
+        m.heir(0, 1);
+        m.thing(5, 10, 0);
+        m.candle(24);
+        inForce("bars if lit=0");
+        peaceAndQuarrel(new int[] {0, 0, 1}, new int[] {0, 0, NONE});
+        m.turn(0);
+        peaceAndQuarrel(new int[] {1, 1, 1}, new int[] {1, 1, NONE});
+        begin("PEACE: the OWNER comes later");
+        m.put(3, 1);
+        m.pivot(3, 1, 0);
+        m.thing(11, 10, 0);
+        m.heir(63, 0);
+        peaceAndQuarrel(new int[] {0, 0, 2}, new int[] {0, 0, NONE});
+        m.heir(0, 0);
+        peaceAndQuarrel(new int[] {1, 1, 1}, new int[] {1, 1, NONE});
+        begin("PEACE: a PIVOT without OWNER, six HEIRS");
+        m.put(3, 1);
+        m.pivot(3, NONE, 0);
+        m.thing(11, 10, 0);
+        for (int heir = 0; heir < 5; heir++) {
+            m.heir(63, 0);
+        }
+        m.heir(0, 0);
+        peaceAndQuarrel(new int[] {0, 0, 2}, new int[] {0, 0, NONE});
+    }
+
     /** One heir, whose pivots at 3 and 24 show 11 and 25, or 27 by either. */
     private static void crossing(int first, int second, int both) {
         again();
@@ -742,6 +959,16 @@ public final class SightEdges extends Due {
         peaceAndQuarrel(new int[] {1, 2, 2}, new int[] {1, 2, NONE});
         crossing(5, 0, 9);
         peaceAndQuarrel(new int[] {1, 1, 2}, new int[] {1, 1, NONE});
+        begin("the greatest of three, neither the first nor the last");
+        int[] glasses = {25, 30, 51};
+        for (int cell : glasses) {
+            m.put(cell, 1);
+            m.pivot(cell, 0, 0);
+        }
+        m.heir(27, 0);
+        m.thing(38, 4, 0);
+        m.thing(54, 5, 0);
+        peaceAndQuarrel(new int[] {1, 2, 4}, new int[] {1, 2, NONE});
     }
 
     /** Three heirs, each with a pivot that he wants otherwise whenever the others have turned theirs. */
@@ -772,12 +999,15 @@ public final class SightEdges extends Due {
         glances();
         seen();
         fogged();
+        fogOnTheRim();
+        fullOfGlass();
         pairs();
         shares();
         estates();
         lit();
         stand();
         fogAndStand();
+        firstToStand();
         tellings();
         turned();
         reveal();
@@ -785,6 +1015,7 @@ public final class SightEdges extends Due {
         hide();
         hides();
         peace();
+        eightThatMatter();
         greatest();
         endless();
         finish("the edges of sight hold");

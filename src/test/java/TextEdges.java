@@ -164,6 +164,10 @@ public final class TextEdges extends Due {
         faulty("bars if 1=1 and or 1=1", 16);
         faulty("bars if 1=1 not 1=1", 12);
         faulty("bars if -1=1", 8);
+        faulty("bars if 1 2", 10);
+        faulty("bars if x y<1", 10);
+        faulty("bars if (1 2)", 11);
+        faulty("bars if 1+1 1=1", 12);
         faulty("claims +1", 7);
         for (String word : new String[] {"pivots", "done", "rent", "estate", "sees", "to", "times", "glances", "hours", "z", "claims"}) {
             faulty("claims " + word, 7);
@@ -319,6 +323,12 @@ public final class TextEdges extends Due {
         claims("claims 5;bars if 1=2 and 1/0=1 and 1/0=1 or 1=2 or 2=2 or 1/0=1", 0);
         claims("claims 5;bars if 1=1 and (1=2 or 1/0=1)", 5);
         claims("claims 5;bars if not 1=2 and not (1=1 and 2=1)", 0);
+        claims("claims 5;bars if not 1=1 and 1=1", 5);
+        claims("claims 5;bars if not 1=1 or 1=1", 0);
+        claims("claims 5;bars if not (not 1=1)", 0);
+        claims("claims 5;bars if not (not 1=2)", 5);
+        claims("claims 5;bars if not (not (not 1=2))", 0);
+        claims("claims 5;bars if not (not (not 1=1)) and 1=1", 5);
         claims("claims 5;bars if 2>1 and 1<2 and 2=2 and not 2>2 and not 2<2 and not 1>2 and not 2<1 and not 1=2", 0);
     }
 
@@ -488,6 +498,49 @@ public final class TextEdges extends Due {
         due("orders()", orders("wait if estate 0>0;wait if estate 0>0;wait if estate 0=0;wait if estate 0>0"), 3);
     }
 
+    private static void words() {
+        begin("hour, pivots, done, rent in one TEXT");
+        m.put(3, 1);
+        m.pivot(3, 0, 0);
+        m.thing(11, 10, 0);
+        m.candle(1);
+        due("orders()", orders("wait times 2;turn 0;wait if rent=10 and done=3 and hour=2 and pivots=1"), 4);
+        due("orders()", orders("wait if rent=10 and done=0 and hour=3 and pivots=1"), 1);
+        begin("\"estate\" H, \"sees\" H T: each of its own");
+        int[] cells = {1, 9, 10, 18, 19};
+        for (int cell : cells) {
+            m.put(cell, 2);
+        }
+        m.terms(0, 6);
+        for (int heir = 0; heir < 6; heir++) {
+            m.heir(8 * heir, heir);
+        }
+        int[] things = {0, 8, 16, 24, 32, 40, 1, 9, 10, 18, 27, 63};
+        for (int cell : things) {
+            m.thing(cell, 1, 0);
+        }
+        m.image(0);
+        for (int heir = 0; heir < 6; heir++) {
+            for (int thing = 0; thing < 12; thing++) {
+                int by = m.glance(8 * heir, things[thing]);
+                due("orders() of heir " + heir + " and thing " + thing, orders("wait if sees " + heir + " " + thing + "+1=" + (by + 1)), 1);
+            }
+        }
+        begin("\"estate\" H: each of its own, 0 without that one");
+        m.image(0);
+        for (int heir = 0; heir < 6; heir++) {
+            m.heir(9 * heir, 0);
+            m.thing(9 * heir, 1 + heir, 0);
+        }
+        for (int heir = 0; heir < 6; heir++) {
+            due("orders()", orders("wait if estate " + heir + "=" + (1 + heir) + "*1000"), 1);
+        }
+        m.back(0);
+        m.heir(0, 0);
+        m.thing(0, 1, 0);
+        due("orders() of those that are gone", orders("wait if estate 1=0 and sees 1 0=0-1 and sees 0 1=0-1 and sees 5 11=0-1;wait if estate 0=1000"), 2);
+    }
+
     private static void stops() {
         begin("One that can't be ends it: all is as it was ahead of it");
         m.put(3, 1);
@@ -556,6 +609,7 @@ public final class TextEdges extends Due {
         fogs();
         orderTexts();
         runs();
+        words();
         stops();
         finish("the edges of the texts hold");
     }
