@@ -692,7 +692,7 @@ public final class MirrorHeirs {
         Rows(int most, int width) {
             this.most = most;
             this.width = width;
-            numbers = new int[most * width];
+            numbers = new int[Math.max(most * width, 0)];
             size = 0;
         }
 

@@ -15,7 +15,7 @@ public final class AgainstOracle {
     static final int NONE = -1;
 
     public static void main(String[] args) {
-        int runs = args.length > 0 ? Integer.parseInt(args[0]) : 500;
+        int runs = args.length > 0 ? Integer.parseInt(args[0]) : 1500;
         int first = args.length > 1 ? Integer.parseInt(args[1]) : 1;
         int wrong = 0;
         for (int seed = first; seed < first + runs && wrong < 5; seed++) {

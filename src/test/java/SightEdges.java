@@ -259,23 +259,26 @@ public final class SightEdges extends Due {
             }
         }
         for (int law = 0; law < 2; law++) {
-            begin("the last of very many ways");
+            begin("the last of very many ways, and the only one to 27");
+            int[] kinds = new int[64];
+            for (int cell = 1; cell < 64; cell++) {
+                kinds[cell] = 4 + (cell + cell / 8) % 2;
+            }
             for (int i = 0; i < 5; i++) {
-                m.put(STAIRS[i], 2);
+                kinds[STAIRS[i]] = 2;
             }
-            m.put(27, 3);
-            for (int cell = 33; cell < 40; cell++) {
-                m.put(cell, 3);
+            for (int pillar : new int[] {26, 27, 28, 35}) {
+                kinds[pillar] = 3;
             }
-            for (int cell = 40; cell < 64; cell++) {
-                m.put(cell, 4 + (cell + cell / 8) % 2);
+            for (int cell = 0; cell < 64; cell++) {
+                m.put(cell, kinds[cell]);
             }
             m.terms(0, 6);
             if (law == 1) {
                 inForce("fogs if glance=7");
             }
+            due("27 from 0 by the document's words", seenFrom(kinds, 0, 6)[27], 6);
             due("glance(0, 27)", m.glance(0, 27), 6);
-            due("glance(0, 63)", m.glance(0, 63) > 0 ? 1 : 0, 1);
         }
     }
 
@@ -991,6 +994,43 @@ public final class SightEdges extends Due {
         peaceAndQuarrel(new int[] {NONE, NONE, 0}, new int[] {NONE, NONE, 8});
         due("at(26, 0): on paper", m.at(26, 0), 2);
         due("count(7)", m.count(7), 0);
+        begin("it never ends; the first turn does not come again, and is counted");
+        m.terms(0, 4);
+        m.heir(54, 0);
+        m.heir(15, 0);
+        m.heir(50, 0);
+        m.put(41, 2);
+        m.put(30, 2);
+        m.put(51, 2);
+        m.put(11, 2);
+        m.pivot(30, 0, 0);
+        m.pivot(51, 0, 0);
+        m.pivot(11, 2, 0);
+        m.thing(62, 76, 0);
+        m.thing(10, 14, 0);
+        m.thing(14, 67, 0);
+        due("quarrel(0)", m.quarrel(0), NONE);
+        due("quarrel(1)", m.quarrel(1), NONE);
+        due("quarrel(2)", m.quarrel(2), 7);
+    }
+
+    /** A hall that was found by chance: a heir turns one of his own back, though another would help him, too. */
+    private static void turnsBack() {
+        begin("a QUARREL: one that was TURNED is turned back");
+        int[][] glasses = {{35, 1, NONE}, {52, 2, 0}, {28, 2, NONE}, {57, 1, NONE}, {59, 1, NONE}, {11, 1, 0}, {45, 2, 1}, {44, 1, 0}, {13, 1, 1}};
+        m.terms(0, 5);
+        m.heir(27, 0);
+        m.heir(54, 0);
+        for (int[] glass : glasses) {
+            m.put(glass[0], glass[1]);
+            if (glass[2] != NONE) {
+                m.pivot(glass[0], glass[2], 0);
+            }
+        }
+        m.thing(29, 28, 0);
+        m.thing(5, 97, 0);
+        m.thing(14, 27, 0);
+        peaceAndQuarrel(new int[] {1, 1, 11}, new int[] {3, 8, NONE});
     }
 
     public static void main(String[] args) {
@@ -1018,6 +1058,7 @@ public final class SightEdges extends Due {
         eightThatMatter();
         greatest();
         endless();
+        turnsBack();
         finish("the edges of sight hold");
     }
 }
