@@ -6,7 +6,7 @@ import java.util.function.ToIntFunction;
  * Only law() and the first two images may make something, the object itself aside.
  */
 public final class Room extends Due {
-    // The machine itself makes some bytes now and then, where a call is run for the first time.
+    // The machine itself makes some bytes now and then: the least of three rounds counts.
     private static final long NEXT_TO_NOTHING = 4_000;
     private static final long MOST_BYTES_OF_AN_OBJECT = 60_000;
     private static final long MOST_BYTES_OF_A_RUN = 700_000;
@@ -38,12 +38,14 @@ public final class Room extends Due {
     private static void run(String what, long most, ToIntFunction<MirrorHeirs> call) {
         begin("what 511 calls make");
         full(m);
-        call.applyAsInt(m);
-        long ahead = bytes();
-        for (int i = 0; i < 511; i++) {
-            call.applyAsInt(m);
+        long made = Long.MAX_VALUE;
+        for (int round = 0; round < 3; round++) {
+            long ahead = bytes();
+            for (int i = 0; i < 511; i++) {
+                call.applyAsInt(m);
+            }
+            made = Math.min(made, bytes() - ahead);
         }
-        long made = bytes() - ahead;
         due(what + " made " + made + " bytes, more than " + most, made > most ? 1 : 0, 0);
     }
 
